@@ -1831,24 +1831,42 @@ public final class DownhillSong {
         private static final int STANDS = 4608;
 
         private int[] stands;
+        /** The STEP by which VOICE b may stand behind VOICE a, at 9 * a + b, FAR if by none. */
+        private final int[] gaps = new int[PAIRS];
+        /** VOICES (bits) that may stand behind each. */
+        private final int[] behind = new int[MOST_VOICES];
 
         /** In how many ways the others can stand behind. */
         void fill(Choir choir) {
+            measure(choir);
             int[] ways = table();
             int all = (1 << choir.voices) - 1;
             for (int set = all; set > 0; set--) {
                 for (int last = 0; last < choir.voices; last++) {
                     if (has(set, last)) {
-                        ways[set * MOST_VOICES + last] = set == all ? 1 : waysOn(choir, ways, set, last);
+                        ways[set * MOST_VOICES + last] = set == all ? 1 : waysOn(ways, set, behind[last] & ~set);
                     }
                 }
             }
         }
 
-        private static int waysOn(Choir choir, int[] ways, int set, int last) {
+        private void measure(Choir choir) {
+            for (int a = 0; a < choir.voices; a++) {
+                behind[a] = 0;
+                for (int b = 0; b < choir.voices; b++) {
+                    int gap = choir.stepBetween(a, b);
+                    gaps[a * MOST_VOICES + b] = gap;
+                    if (gap <= choir.step) {
+                        behind[a] |= 1 << b;
+                    }
+                }
+            }
+        }
+
+        private static int waysOn(int[] ways, int set, int free) {
             int sum = 0;
-            for (int v = 0; v < choir.voices; v++) {
-                if (!has(set, v) && choir.stepBetween(last, v) <= choir.step) {
+            for (int v = 0; v < MOST_VOICES && free >> v != 0; v++) {
+                if (has(free, v)) {
                     sum += ways[(set | 1 << v) * MOST_VOICES + v];
                 }
             }
@@ -1871,22 +1889,23 @@ public final class DownhillSong {
         /** VOICE k of the first order, behind fill(), if there is one. */
         int voiceAt(Choir choir, int k) {
             int set = 0;
+            int free = (1 << choir.voices) - 1;
             int last = NONE;
             for (int place = 0; place <= k; place++) {
-                last = firstBehind(choir, set, last);
+                last = firstOf(set, free);
                 if (last == NONE) {
                     return NONE;
                 }
                 set |= 1 << last;
+                free = behind[last] & ~set;
             }
             return last;
         }
 
-        private int firstBehind(Choir choir, int set, int last) {
+        private int firstOf(int set, int free) {
             int[] ways = table();
-            for (int v = 0; v < choir.voices; v++) {
-                boolean may = !has(set, v) && (last == NONE || choir.stepBetween(last, v) <= choir.step);
-                if (may && ways[(set | 1 << v) * MOST_VOICES + v] > 0) {
+            for (int v = 0; v < MOST_VOICES; v++) {
+                if (has(free, v) && ways[(set | 1 << v) * MOST_VOICES + v] > 0) {
                     return v;
                 }
             }
@@ -1897,12 +1916,13 @@ public final class DownhillSong {
             if (choir.voices == 0) {
                 return 0;
             }
+            measure(choir);
             int[] steps = table();
             int all = (1 << choir.voices) - 1;
             for (int set = all; set > 0; set--) {
                 for (int last = 0; last < choir.voices; last++) {
                     if (has(set, last)) {
-                        steps[set * MOST_VOICES + last] = set == all ? 0 : stepOn(choir, steps, set, last);
+                        steps[set * MOST_VOICES + last] = set == all ? 0 : stepOn(steps, set, all & ~set, last);
                     }
                 }
             }
@@ -1913,12 +1933,12 @@ public final class DownhillSong {
             return nearOrNone(least);
         }
 
-        private static int stepOn(Choir choir, int[] steps, int set, int last) {
+        private int stepOn(int[] steps, int set, int free, int last) {
             int least = FAR;
-            for (int v = 0; v < choir.voices; v++) {
-                if (!has(set, v)) {
-                    int behind = steps[(set | 1 << v) * MOST_VOICES + v];
-                    least = Math.min(least, Math.max(behind, choir.stepBetween(last, v)));
+            for (int v = 0; v < MOST_VOICES && free >> v != 0; v++) {
+                int gap = gaps[last * MOST_VOICES + v];
+                if (has(free, v) && gap < least) {
+                    least = Math.min(least, Math.max(gap, steps[(set | 1 << v) * MOST_VOICES + v]));
                 }
             }
             return least;
