@@ -12,8 +12,15 @@ import java.util.TreeSet;
 public final class AnyArgumentsTest {
     private static final int[] EDGES = {Integer.MIN_VALUE, Integer.MIN_VALUE + 1, -1000, -2, -1, 0, 1, 2, 3, 4, 5, 6, 7, 8, 9, 10,
         19, 20, 29, 30, 31, 32, 39, 40, 60, 61, 79, 80, 99, 100, 140, 141, 600, Integer.MAX_VALUE - 1, Integer.MAX_VALUE};
+    /** As full as may be: 9 HUTS, 6 SINGERS, 4 ECHOES. */
+    private static final String FULL = "hut 90;hut 80;hut 70;hut 60;hut 50;hut 40;hut 30;hut 20;hut 9;way 0 1 9;way 1 2 9;way 2 3 9;"
+        + "way 3 4 9;way 4 5 9;way 5 6 9;way 6 7 9;way 7 8 9;way 0 8 1;way 2 8 3;way 1 5 2;village 8;village 3;village 0;dam 6;"
+        + "echo 8 0;echo 7 8;echo 1 8;echo 4 6;ladder 8 9;ladder 0 3;deep 9;singer 8 9;singer 0 0;singer 7 1;singer 4 2;"
+        + "singer 1 9;singer 8 0;knows 0 4;knows 5 0;knows 5 4;knows 1 1;knows 3 2;";
+    private static final String LONG = "begin 5 4;climb 5;" + "sing 5 4;".repeat(36) + "whistle 0 4;walk 0 7;";
     private static final String[] TEXTS = {
-        EveningTest.LAND, "hut 9;hut 5;hut 7;way 0 1 1;way 1 2 4;dam 1;village 1;village 2;singer 0 0;singer 1 0;knows 0 4;echo 2 0;",
+        EveningTest.LAND, FULL, LONG, "begin 5 4;walk 5 0;", "heard 8 60;mute 0 0;", "mute 5 9;".repeat(10),
+        "voice 3 9;", "voice 0 0;voice 1 0;".repeat(4) + "voice 2 9;", FULL, "hut 9;hut 5;hut 7;way 0 1 1;way 1 2 4;dam 1;village 1;village 2;singer 0 0;singer 1 0;knows 0 4;echo 2 0;",
         "begin 0 0;walk 0 1;sing 0 0;begin 1 1;walk 1 2;sing 1 1;whistle 0 0;climb 2;sing 3 0;", "begin 0 4;walk 0 1;sing 0 4;",
         "heard 3 5;mute 2 2;", "heard 8 60;", "voice 0 5;voice 1 6;voice 0 4;step 1;",
         "voice 0 0;voice 1 1;voice 2 2;voice 3 3;voice 0 4;voice 1 5;voice 2 6;voice 3 7;voice 0 8;step 9;"};
@@ -21,7 +28,7 @@ public final class AnyArgumentsTest {
     public static void main(String[] args) throws ReflectiveOperationException {
         face();
         Method[] calls = calls();
-        for (int round = 0; round < 300; round++) {
+        for (int round = 0; round < 1000; round++) {
             long first = run(calls, round);
             Check.due("the same calls once more, seed " + round, run(calls, round), first);
         }
@@ -75,7 +82,7 @@ public final class AnyArgumentsTest {
         for (int n = 0; n < 400; n++) {
             if (random.nextInt(8) == 0) {
                 int which = random.nextInt(TEXTS.length);
-                sum = sum * 31 + Check.tell(x, which / 2, random.nextInt(3) - 1, TEXTS[which]);
+                sum = sum * 31 + Check.tell(x, which / 2 % 4, random.nextInt(3) - 1, TEXTS[which]);
             }
             Method call = calls[random.nextInt(calls.length)];
             sum = sum * 31 + answer(x, call, random);
@@ -90,7 +97,7 @@ public final class AnyArgumentsTest {
             if (types[i] == boolean.class) {
                 given[i] = random.nextBoolean();
             } else {
-                int edge = random.nextInt(3) == 0 ? EDGES[random.nextInt(EDGES.length)] : random.nextInt(i == 0 ? 2 : 12) - i % 2;
+                int edge = random.nextInt(3) == 0 ? EDGES[random.nextInt(EDGES.length)] : random.nextInt(i == 0 ? 2 : random.nextBoolean() ? 10 : 50) - i % 2;
                 given[i] = edge;
             }
         }

@@ -290,6 +290,15 @@ public final class TextsTest {
         }
         Check.due("land(1, 0)", x.land(1, 0), -1);
         Check.due("land(-1, 0)", x.land(-1, 0), -1);
+        Check.told(x, Check.LAND, Check.repeat("hut 7;", 9) + "singer 8 1;knows 0 3;way 8 0 6;");
+        Check.due("no WAY from HUT 0 to itself", x.land(1, 60), 0);
+        Check.due("WAY 0 8", x.land(1, 68), 6);
+        Check.due("WAY 8 0", x.land(1, 132), 6);
+        Check.due("WAY 8 8", x.land(1, 140), 0);
+        Check.due("behind WAY 8 8", x.land(1, 141), -1);
+        Check.due("HEIGHT 8", x.land(1, 18), 7);
+        Check.due("what 19", x.land(1, 19), -1);
+        Check.due("LADDER 8", x.land(1, 28), 0);
         Check.due("in its place", Check.tell(x, Check.LAND, 0, "hut 1;hut 2;hut 3;singer 0 0;"), 0);
         int[] anew = {3, 1, 0, 0, 0, 2, 5};
         for (int what = 0; what < anew.length; what++) {
