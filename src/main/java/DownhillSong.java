@@ -80,14 +80,16 @@ public final class DownhillSong {
     }
 
     public int text(int sort, int at) {
+        int bytes = told.length;
+        // The tape is taken whatever the answer, also if no text is read from it.
+        told.length = 0;
         told.fault = 0;
         told.place = NONE;
         int number = numberFor(sort, at);
         if (number == MISSING) {
             return MISSING;
         }
-        reader.read(told.tape, told.length, sort);
-        told.length = 0;
+        reader.read(told.tape, bytes, sort);
         told.fault = reader.fault;
         told.place = reader.faultPlace;
         if (reader.fault != 0) {

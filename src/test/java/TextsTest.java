@@ -70,14 +70,16 @@ public final class TextsTest {
 
     private static void textPlaces() {
         DownhillSong x = new DownhillSong();
-        Check.tape(x, "hut 7");
-        Check.due("text(4)", x.text(4, -1), -2);
-        Check.due("text(-1)", x.text(-1, -1), -2);
-        Check.due("text in the place of none", x.text(0, 0), -2);
-        Check.due("text at -2", x.text(0, -2), -2);
-        Check.due("the tape stays", x.end(5), 5);
-        Check.due("FAULT 0", x.fault(0), 0);
-        Check.due("text", x.text(0, -1), -1);
+        notRead(x, 4, -1);
+        notRead(x, -1, -1);
+        notRead(x, Integer.MAX_VALUE, -1);
+        notRead(x, Integer.MIN_VALUE, 0);
+        for (int sort = 0; sort < 4; sort++) {
+            notRead(x, sort, 0);
+            notRead(x, sort, -2);
+            notRead(x, sort, Integer.MAX_VALUE);
+        }
+        Check.due("FAULT", Check.tell(x, 0, -1, "hut 7"), -1);
         Check.due("FAULT", x.fault(0), 1);
         Check.due("place", x.fault(1), 5);
         Check.due("text(7)", x.text(7, -1), -2);
@@ -85,6 +87,8 @@ public final class TextsTest {
         Check.due("no place", x.fault(1), -1);
         Check.due("first", Check.tell(x, 0, -1, "hut 1;"), 0);
         Check.due("second", Check.tell(x, 0, -1, "hut 2;"), 1);
+        notRead(x, 0, -1);
+        notRead(x, 0, 2);
         Check.due("third", Check.tell(x, 0, -1, "hut 3;"), -2);
         Check.due("in the place of 0", Check.tell(x, 0, 0, "hut 4;hut 5;"), 0);
         Check.due("in the place of 2", Check.tell(x, 0, 2, "hut 4;"), -2);
@@ -95,6 +99,17 @@ public final class TextsTest {
         Check.due("land 1 stays", x.land(1, 10), 2);
         Check.due("land 1 has one HUT", x.land(1, 0), 1);
         Check.due("no other sort", x.count(1) + x.count(2) + x.count(3), 0);
+    }
+
+    /** text() that answers -2: no text is read, but the tape is taken. */
+    private static void notRead(DownhillSong x, int sort, int at) {
+        String call = "text(" + sort + ", " + at + ")";
+        Check.tape(x, "hut 7");
+        Check.due(call, x.text(sort, at), -2);
+        Check.due("FAULT of " + call, x.fault(0), 0);
+        Check.due("place of " + call, x.fault(1), -1);
+        Check.due("the tape is taken by " + call, x.feed(0, 0, 0, 0, 0), 20);
+        Check.due("the tape's end", x.end(0), 0);
     }
 
     private static void firstFaults() {
