@@ -74,7 +74,8 @@ public final class FaultModelTest {
         return new int[] {Integer.parseInt(two[0]), Integer.parseInt(two[1])};
     }
 
-    private static int[] fault(int sort, String text) {
+    /** The FAULT of a text and its place, 0 and -1 without. */
+    static int[] fault(int sort, String text) {
         List<String> tokens = new ArrayList<>();
         List<Integer> places = new ArrayList<>();
         int bad = split(text, tokens, places);
