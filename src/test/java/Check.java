@@ -82,6 +82,22 @@ final class Check {
         due("fault(1) of " + text, x.fault(1), NONE);
     }
 
+    /** A new object that is told these, the first of each sort; null is not told. */
+    static DownhillSong with(String land, String evening, String sight, String choir) {
+        DownhillSong x = new DownhillSong();
+        String[] texts = {land, evening, sight, choir};
+        for (int sort = 0; sort < texts.length; sort++) {
+            if (texts[sort] != null) {
+                told(x, sort, texts[sort]);
+            }
+        }
+        return x;
+    }
+
+    static DownhillSong land(String land) {
+        return with(land, null, null, null);
+    }
+
     static String repeat(String part, int times) {
         return part.repeat(times);
     }
