@@ -32,12 +32,14 @@ public final class EdgesEveningTest {
         doneForAsHigh();
         doneForByWays();
         doneForOnlyBegun();
+        doneForOfEachState();
         fameAndSeers();
         oddsUpTo18();
         oddsInLeastTerms();
         oddsUpToStop();
         drawnNothing();
         drawnOnlyIfHeMay();
+        drawnBeginsThenSings();
         drawnWrapsAround();
         drawnEdges();
         teachNothing();
@@ -409,6 +411,19 @@ public final class EdgesEveningTest {
         state("hut 50;hut 40;singer 0 0;singer 1 0;knows 0 0;knows 1 0;", "begin 0 0;", 4, 0);
     }
 
+    // 10: a STATE is asked on its own, whichever was asked before
+    private static void doneForOfEachState() {
+        DownhillSong x = with("hut 40;hut 50;hut 45;way 0 1 1;way 1 2 1;deep 1;singer 1 0;singer 2 0;knows 0 0;", "begin 0 0;sing 0 0;");
+        Check.told(x, 0, "hut 40;hut 50;hut 45;singer 1 0;singer 2 0;knows 0 0;");
+        for (int round = 0; round < 2; round++) {
+            Check.due("down to HUT 0", x.state(0, 0, 1, 4), 0);
+            Check.due("without WAYS", x.state(1, 0, 1, 4), 1);
+            Check.due("CUT off", x.state(0, 0, 2, 4), 1);
+        }
+        state("hut 40;hut 50;way 0 1 1;singer 1 0;knows 0 0;", "begin 0 0;", 4, 0);
+        state("hut 60;hut 50;hut 40;way 1 0 1;way 0 2 1;singer 1 0;knows 0 0;", "begin 0 0;", 4, 0);
+    }
+
     // Terms 2: "FAME of a SONG: how many KNOW it. SEERS: SINGERS who KNOW all SONGS that are begun."
     private static void fameAndSeers() {
         String land = "hut 9;hut 8;" + "singer 0 0;".repeat(3) + "singer 1 0;".repeat(3) + "knows 0 0;knows 3 0;knows 3 1;knows 5 4;";
@@ -493,6 +508,33 @@ public final class EdgesEveningTest {
             for (int what = 0; what < 80; what++) {
                 Check.due("in a DAM", x.drawn(0, 5, n, what), x.state(0, 0, 0, what));
                 Check.due("knowing none", none.drawn(0, 5, n, what), none.state(0, 0, 0, what));
+            }
+        }
+    }
+
+    // Terms 5, DRAWN: "else he sings a SONG, a number below 5: begins, if it is not begun, else sings"
+    private static void drawnBeginsThenSings() {
+        DownhillSong x = Check.land("hut 50;singer 0 0;knows 0 0;knows 0 1;knows 0 3;knows 0 4;");
+        for (int seed = 0; seed < 20; seed++) {
+            int now = seed;
+            int begun = 0;
+            int snow = 0;
+            for (int n = 0; n <= 60; n++) {
+                Check.due("SONGS begun by " + seed + " behind " + n, x.drawn(0, seed, n, 3), begun);
+                Check.due("AVALANCHES by " + seed + " behind " + n, x.drawn(0, seed, n, 1), snow);
+                Check.due("SNOW by " + seed + " behind " + n, x.drawn(0, seed, n, 70), snow);
+                Check.due("LEVEL by " + seed + " behind " + n, x.drawn(0, seed, n, 10), (begun & 1) == 1 ? 50 : -1);
+                int[] drawn = new int[3];
+                for (int i = 0; i < 3; i++) {
+                    now = now * 1103515245 + 12345;
+                    drawn[i] = now >>> 16;
+                }
+                int song = drawn[2] % 5;
+                if (drawn[1] % 8 > 2 && song != 2) {
+                    // Alone in his HUT he is as HIGH as the LEVEL, whenever it is sung again.
+                    snow += begun >> song & 1;
+                    begun |= 1 << song;
+                }
             }
         }
     }
@@ -586,6 +628,10 @@ public final class EdgesEveningTest {
         String both = "hut 50;hut 40;hut 30;echo 0 2;singer 0 0;singer 1 0;singer 1 1;singer 2 0;knows 0 0;knows 1 0;";
         Check.due("both, the higher first", with(both, "").teach(0, 0, 0, 0), 2);
         Check.due("the lower one began", with(both, "begin 1 0;").teach(0, 0, 1, 0), -1);
+        // Two who would have to sing, one as HIGH as the other: the second would be WRONG.
+        String like = "hut 50;hut 50;singer 0 0;singer 1 0;singer 0 4;singer 1 4;knows 0 0;knows 1 0;";
+        Check.due("as HIGH", with(like, "").teach(0, 0, 0, 0), -1);
+        Check.due("one less HIGH", with(like.replace("hut 50;hut 50;", "hut 50;hut 49;"), "").teach(0, 0, 0, 0), 2);
         // Six of them, each in a HUT of his own but the last.
         String six = "hut 50;hut 40;hut 30;hut 20;hut 10;echo 0 1;echo 0 2;echo 0 3;echo 0 4;singer 0 0;singer 1 0;singer 2 0;singer 3 0;"
             + "singer 4 0;singer 4 1;knows 5 3;knows 0 3;";

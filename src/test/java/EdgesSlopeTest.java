@@ -672,36 +672,46 @@ public final class EdgesSlopeTest {
         }
     }
 
-    // 11 to 16, 18, 25 to 30: of two LANDS and two SIGHTS each is asked on its own
+    // 11 to 16, 18, 25 to 30: of two LANDS and two SIGHTS each is asked on its own, in any order
     private static void theSecondLand() {
-        String[] lands = {LINE + "village 8;singer 0 0;singer 4 0;dam 6;", "hut 4;hut 9;way 0 1 2;singer 1 0;singer 0 0;village 0;"};
+        String[] lands = {LINE + "village 8;singer 0 0;singer 4 0;dam 6;", "hut 4;hut 9;way 0 1 2;singer 1 0;singer 0 0;village 0;",
+            LINE.replaceAll("way 0 1 9;.*", "") + "echo 8 0;echo 0 7;way 7 2 3;way 2 4 5;singer 8 0;singer 0 0;village 0;village 7;",
+            "hut 9;hut 9;hut 9;"};
         String[] sights = {"heard 1 9;", "mute 0 0;"};
-        DownhillSong x = new DownhillSong();
-        for (int k = 0; k < 2; k++) {
-            Check.told(x, 0, lands[k]);
-            Check.told(x, 2, sights[k]);
-        }
-        for (int k = 0; k < 2; k++) {
-            for (int s = 0; s < 2; s++) {
-                DownhillSong alone = Check.with(lands[k], null, sights[s], null);
-                Check.due("fits", x.fits(k, s, false), alone.fits(0, 0, false));
-                Check.due("ask", x.fits(k, s, true), alone.fits(0, 0, true));
+        for (int a = 0; a < lands.length; a++) {
+            for (int b = 0; b < lands.length; b++) {
+                DownhillSong x = Check.with(lands[a], null, sights[0], null);
+                Check.told(x, 0, lands[b]);
+                Check.told(x, 2, sights[1]);
+                String first = asked(Check.with(lands[a], null, sights[0], null), 0, 0);
+                String second = asked(Check.with(lands[b], null, sights[1], null), 0, 0);
+                Check.due("the first", asked(x, 0, 0).equals(first), true);
+                Check.due("the second", asked(x, 1, 1).equals(second), true);
+                Check.due("the first, once more", asked(x, 0, 0).equals(first), true);
+                Check.due("unlike ones", a != b && first.equals(second), false);
             }
-            DownhillSong alone = with(lands[k]);
-            Check.due("comes", x.comes(k, 1, 0), alone.comes(0, 1, 0));
-            Check.due("villages", x.villages(k, 9, 0), alone.villages(0, 9, 0));
-            Check.due("best", x.best(k, false), alone.best(0, false));
-            Check.due("routes", x.routes(k, 1, 0, 0), alone.routes(0, 1, 0, 0));
-            Check.due("mutes", x.mutes(k, 0, -1), alone.mutes(0, 0, -1));
-            Check.due("masses", x.masses(k, 1, true), alone.masses(0, 1, true));
-            Check.due("psalm", x.psalm(k, 0, 50, 0), alone.psalm(0, 0, 50, 0));
-            Check.due("meet", x.meet(k, 0, 1, true), alone.meet(0, 0, 1, true));
-            Check.due("carry", x.carry(k, 1, true), alone.carry(0, 1, true));
-            Check.due("join", x.join(k, 0, 1, true), alone.join(0, 0, 1, true));
-            Check.due("slopes", x.slopes(k, 2), alone.slopes(0, 2));
-            Check.due("flood", x.flood(k, 0, 1, false), alone.flood(0, 0, 1, false));
         }
-        Check.due("unlike ones", x.comes(0, 1, 0) == x.comes(1, 1, 0), false);
+    }
+
+    /** All that can be asked of a LAND. */
+    private static String asked(DownhillSong x, int land, int sight) {
+        StringBuilder all = new StringBuilder().append(x.fits(land, sight, false)).append(' ').append(x.fits(land, sight, true));
+        for (int a = 0; a < 9; a++) {
+            for (int b = 0; b < 9; b++) {
+                int[] got = {x.comes(land, a, b), x.routes(land, a, b, 0), x.routes(land, a, b, 1), x.routes(land, a, b, 2),
+                    x.mutes(land, a, b), x.meet(land, a, b, false), x.meet(land, a, b, true), x.join(land, a, b, false),
+                    x.join(land, a, b, true), x.flood(land, a, b, true), x.psalm(land, a, 11 * b, 0), x.psalm(land, a, 11 * b, 1)};
+                for (int n : got) {
+                    all.append(' ').append(n);
+                }
+            }
+            int[] got = {x.mutes(land, a, -1), x.villages(land, 11 * a, 0), x.villages(land, 11 * a, 1), x.masses(land, 11 * a, true),
+                x.carry(land, a, false), x.carry(land, a, true), x.slopes(land, a % 4), x.best(land, a % 2 == 0)};
+            for (int n : got) {
+                all.append(' ').append(n);
+            }
+        }
+        return all.toString();
     }
 
     // Terms 1: a LAND without HUTS is one, too

@@ -32,6 +32,8 @@ public final class EdgesTellingTest {
         signsOfTokens();
         rowsOfDigits();
         linesCutShort();
+        bytesBehindTheEnd();
+        wordsMisspelled();
         linesTooLong();
         wordsOfOtherSorts();
         asManyAsMayBe();
@@ -249,7 +251,7 @@ public final class EdgesTellingTest {
     // 4: each text is read on its own; nothing of an earlier one, good or faulty, is in it.
     private static void textLeavesNoTrace() {
         for (int sort = 0; sort < 4; sort++) {
-            for (String next : new String[] {"", OTHER[sort]}) {
+            for (String next : new String[] {"", OTHER[sort], sort == 0 ? "hut 1;".repeat(9) + "singer 0 0;".repeat(6) : ""}) {
                 DownhillSong alone = new DownhillSong();
                 Check.told(alone, sort, next);
                 DownhillSong x = new DownhillSong();
@@ -419,6 +421,40 @@ public final class EdgesTellingTest {
             }
         }
         Check.faulty(3, "step 1 \n ", 1, 9);
+    }
+
+    // 3, 4: "its first n bytes alone": what stood behind the end once, or in the text before, is no part of the text
+    private static void bytesBehindTheEnd() {
+        for (String row : WORDS) {
+            String[] form = row.split(" ");
+            int sort = Integer.parseInt(form[0]);
+            String line = line(form, -1, "");
+            for (int n = 1; n < line.length(); n++) {
+                DownhillSong x = new DownhillSong();
+                Check.tell(x, sort, -1, "a1".repeat(300));
+                Check.tape(x, line.substring(0, n) + "a1;".repeat(9));
+                Check.due("end", x.end(n), n);
+                Check.due("text", x.text(sort, -1), -1);
+                Check.due("FAULT", x.fault(0), 1);
+                Check.due("place", x.fault(1), n < form[1].length() ? 0 : n);
+            }
+        }
+    }
+
+    // Terms 1: "with which no text goes on": one letter that is another, one less, one more
+    private static void wordsMisspelled() {
+        for (String row : WORDS) {
+            String[] form = row.split(" ");
+            int sort = Integer.parseInt(form[0]);
+            String line = line(form, -1, "");
+            for (int i = 0; i < form[1].length(); i++) {
+                String rest = line.substring(i + 1);
+                Check.faulty(sort, line.substring(0, i) + "x" + rest, 1, 0);
+                Check.faulty(sort, line.substring(0, i) + "x" + line.charAt(i) + rest, 1, 0);
+                Check.faulty(sort, line.substring(0, i) + rest, 1, 0);
+                Check.faulty(sort, line.substring(0, i) + Character.toUpperCase(line.charAt(i)) + rest, 1, 0);
+            }
+        }
     }
 
     // Terms 1, the lines: one NUMBER more, one less, a second word.

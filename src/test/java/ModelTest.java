@@ -8,9 +8,13 @@ public final class ModelTest {
     private static final Random RANDOM = new Random(20261118);
 
     public static void main(String[] args) {
-        for (int round = 0; round < 400; round++) {
-            Model model = land();
+        for (int round = 0; round < 430; round++) {
+            // The last ones are as large as may be.
+            Model model = round < 400 ? land(1 + below(7), below(6)) : land(9, 6);
             DownhillSong x = new DownhillSong();
+            if (model.text().length() > 600) {
+                continue;
+            }
             Check.told(x, Check.LAND, model.text());
             pairs(x, model);
             sets(x, model);
@@ -18,7 +22,7 @@ public final class ModelTest {
             singers(x, model);
             evening(x, model);
             draws(x, model);
-            choir(x);
+            choir(x, round < 400 ? below(8) : 9 - round % 2);
         }
         Check.finish();
     }
@@ -27,9 +31,8 @@ public final class ModelTest {
         return RANDOM.nextInt(n);
     }
 
-    private static Model land() {
+    private static Model land(int huts, int singers) {
         Model m = new Model();
-        int huts = 1 + below(7);
         m.heights = new int[huts];
         int spread = RANDOM.nextBoolean() ? 100 : 6;
         for (int h = 0; h < huts; h++) {
@@ -55,7 +58,7 @@ public final class ModelTest {
         }
         m.deep = 1 + below(3);
         m.slide = below(11);
-        for (int s = below(6); s > 0; s--) {
+        for (int s = singers; s > 0; s--) {
             m.singers.add(new int[] {below(huts), below(10)});
             m.known.add(new java.util.HashSet<>());
             for (int k = below(4); k > 0; k--) {
@@ -87,12 +90,16 @@ public final class ModelTest {
                 if (mutes >= 0 && (worst == -1 || mutes > m.mutes(a, worst))) {
                     worst = b;
                 }
-                int flood = shut || a == b ? -1 : m.flood(a, b);
-                Check.due("FLOOD bits" + two, x.flood(0, a, b, true), flood);
-                Check.due("FLOOD" + two, x.flood(0, a, b, false), flood == -1 ? -1 : Integer.bitCount(flood));
                 int[] join = shut ? new int[] {-1, -1} : soonest(m, a, b, false);
                 Check.due("JOIN" + two, x.join(0, a, b, false), join[0]);
                 Check.due("JOIN minute" + two, x.join(0, a, b, true), join[1]);
+                // The model is slow at this: of large LANDS some pairs are enough.
+                if (m.huts() == 9 && below(12) > 0) {
+                    continue;
+                }
+                int flood = shut || a == b ? -1 : m.flood(a, b);
+                Check.due("FLOOD bits" + two, x.flood(0, a, b, true), flood);
+                Check.due("FLOOD" + two, x.flood(0, a, b, false), flood == -1 ? -1 : Integer.bitCount(flood));
             }
             Check.due("WORST " + a + " of " + m.text(), x.mutes(0, a, -1), shutA ? -2 : worst);
         }
@@ -305,12 +312,12 @@ public final class ModelTest {
         }
     }
 
-    private static void choir(DownhillSong x) {
+    private static void choir(DownhillSong x, int many) {
         List<int[]> voices = new ArrayList<>();
         StringBuilder text = new StringBuilder();
         int parts = 2 + below(3);
         int high = RANDOM.nextBoolean() ? 10 : 4;
-        for (int k = below(8); k > 0; k--) {
+        for (int k = many; k > 0; k--) {
             voices.add(new int[] {below(parts), below(high)});
             int[] voice = voices.get(voices.size() - 1);
             text.append("voice ").append(voice[0]).append(' ').append(voice[1]).append(';');
