@@ -645,6 +645,10 @@ public final class EdgesEveningTest {
         for (int song = -2; song < 8; song++) {
             Check.due("SONG " + song, x.teach(0, 0, 0, song), song >= 0 && song < 5 ? 0 : -1);
         }
+        DownhillSong without = with("hut 1;", "");
+        for (int song = -2; song < 8; song++) {
+            Check.due("SONG " + song + " without SINGERS", without.teach(0, 0, 0, song), song >= 0 && song < 5 ? 0 : -1);
+        }
         for (int n = -2; n < 5; n++) {
             Check.due("n " + n, x.teach(0, 0, n, 0), n == 0 || n == 1 ? 0 : -1);
         }
