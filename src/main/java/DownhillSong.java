@@ -525,9 +525,6 @@ public final class DownhillSong {
         final int[] homes = new int[MOST_SINGERS];
         final int[] talls = new int[MOST_SINGERS];
         final int[] known = new int[MOST_SINGERS];
-        // Bits of all HUTS and SINGERS that a line told of, there or not, for FAULT 4.
-        int hutsToldOf;
-        int singersToldOf;
 
         void clear() {
             huts = 0;
@@ -540,8 +537,6 @@ public final class DownhillSong {
             Arrays.fill(ladders, 0);
             Arrays.fill(minutes, 0);
             Arrays.fill(known, 0);
-            hutsToldOf = 0;
-            singersToldOf = 0;
         }
 
         void copyFrom(Land other) {
@@ -560,12 +555,6 @@ public final class DownhillSong {
             System.arraycopy(other.homes, 0, homes, 0, MOST_SINGERS);
             System.arraycopy(other.talls, 0, talls, 0, MOST_SINGERS);
             System.arraycopy(other.known, 0, known, 0, MOST_SINGERS);
-            hutsToldOf = other.hutsToldOf;
-            singersToldOf = other.singersToldOf;
-        }
-
-        boolean tellsOfMissing() {
-            return hutsToldOf >> huts != 0 || singersToldOf >> singers != 0;
         }
 
         boolean hasHut(int h) {
@@ -852,6 +841,9 @@ public final class DownhillSong {
         private int kind;
         private int first;
         private int value;
+        // Bits of all HUTS and SINGERS that a line told of, there or not, for FAULT 4.
+        private int hutsToldOf;
+        private int singersToldOf;
 
         void read(byte[] from, int bytes, int sort) {
             System.arraycopy(from, 0, tape, 0, bytes);
@@ -865,7 +857,7 @@ public final class DownhillSong {
             for (int lines = 0; lines < length && kind != END && fault != 1; lines++) {
                 readLine(sort);
             }
-            if (fault == 0 && sort == LAND && land.tellsOfMissing()) {
+            if (fault == 0 && sort == LAND && tellsOfMissing()) {
                 mark(4, length);
             }
         }
@@ -873,6 +865,8 @@ public final class DownhillSong {
         private void clearDraft(int sort) {
             if (sort == LAND) {
                 land.clear();
+                hutsToldOf = 0;
+                singersToldOf = 0;
             } else if (sort == EVENING) {
                 evening.deeds = 0;
             } else if (sort == SIGHT) {
@@ -881,6 +875,10 @@ public final class DownhillSong {
                 choir.voices = 0;
                 choir.step = 0;
             }
+        }
+
+        private boolean tellsOfMissing() {
+            return hutsToldOf >> land.huts != 0 || singersToldOf >> land.singers != 0;
         }
 
         private void readLine(int sort) {
@@ -978,11 +976,11 @@ public final class DownhillSong {
                     break;
                 case VILLAGE:
                     land.villages |= 1 << a;
-                    land.hutsToldOf |= 1 << a;
+                    hutsToldOf |= 1 << a;
                     break;
                 case DAM:
                     land.dams |= 1 << a;
-                    land.hutsToldOf |= 1 << a;
+                    hutsToldOf |= 1 << a;
                     break;
                 case DEEP:
                     land.deep = a;
@@ -993,27 +991,27 @@ public final class DownhillSong {
                 case WAY:
                     land.minutes[a * MOST_HUTS + b] = c;
                     land.minutes[b * MOST_HUTS + a] = c;
-                    land.hutsToldOf |= 1 << a | 1 << b;
+                    hutsToldOf |= 1 << a | 1 << b;
                     break;
                 case ECHO:
                     land.echoFrom[land.echoes] = a;
                     land.echoTo[land.echoes] = b;
                     land.echoes++;
-                    land.hutsToldOf |= 1 << a | 1 << b;
+                    hutsToldOf |= 1 << a | 1 << b;
                     break;
                 case LADDER:
                     land.ladders[a] = b;
-                    land.hutsToldOf |= 1 << a;
+                    hutsToldOf |= 1 << a;
                     break;
                 case SINGER:
                     land.homes[land.singers] = a;
                     land.talls[land.singers] = b;
                     land.singers++;
-                    land.hutsToldOf |= 1 << a;
+                    hutsToldOf |= 1 << a;
                     break;
                 default:
                     land.known[a] |= 1 << b;
-                    land.singersToldOf |= 1 << a;
+                    singersToldOf |= 1 << a;
                     break;
             }
         }
